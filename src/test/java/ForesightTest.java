@@ -5,7 +5,8 @@ public final class ForesightTest {
         promise18FarthestHour();
         promise19Foresee();
         promise20Advise();
-        promise20Horizon();
+        promise20OtherBoats();
+        promise20LastHour();
         promise20Throws();
         promise21Quiet();
         promise21FarthestHour();
@@ -134,8 +135,7 @@ public final class ForesightTest {
         Check.due("10 and 4 at 15, or 5 and 9 at 11", x.advise(0), 11);
     }
 
-    /** Only the bales behind 40 hours count, of all caves, and the other boats go on meanwhile. */
-    private static void promise20Horizon() {
+    private static void promise20OtherBoats() {
         CoveSignals x = new CoveSignals();
         x.setRoom(4, 4);
         x.setRoom(9, 30);
@@ -151,6 +151,25 @@ public final class ForesightTest {
         Check.due("as many at both", x.advise(0), 4);
         x.setRoom(9, 25);
         Check.due("5 more at 9", x.advise(0), 9);
+    }
+
+    /**
+     * Boat 1 is led to its own place, 13, in the hour 62 (at moon 0), and unloads in the hour 63; if that counts, boat
+     * 0 had best leave the cave there to it and go to 10, where there is room for less.
+     */
+    private static void promise20LastHour() {
+        CoveSignals x = new CoveSignals();
+        x.pass(23);
+        x.setRoom(10, 3);
+        x.setRoom(13, 4);
+        x.setCode(1, 13);
+        x.lantern(4);
+        x.setShow(0, 2, 1);
+        x.boat(11, 4);
+        x.boat(13, 4);
+        Check.due("the hours 23 to 62", x.advise(0), 13);
+        x.pass(1);
+        Check.due("the hours 24 to 63", x.advise(0), 10);
     }
 
     private static void promise20Throws() {

@@ -6,9 +6,11 @@ public final class TellersTest {
         promise12Light();
         promise12OtherEyes();
         promise13Code();
+        promise13BoatsLed();
         promise14Place();
         promise15Moon();
         promise16Count();
+        promise16KnownCodes();
         Check.end("TellersTest");
     }
 
@@ -164,6 +166,27 @@ public final class TellersTest {
         Check.outOfBounds(x, "code(1, -1)", () -> x.code(1, -1));
     }
 
+    private static void promise13BoatsLed() {
+        CoveSignals x = new CoveSignals();
+        x.setCode(1, 0);
+        x.setCode(7, 15);
+        x.lantern(3);
+        x.lantern(12);
+        x.setShow(0, 0, 1);
+        x.setShow(1, 0, 7);
+        int[] places = {3, 4, 12, 13, 14, 5};
+        for (int place : places) {
+            x.boat(place, 20);
+        }
+        x.pass(1);
+        Check.due("led by 1", x.code(1, 3), 3);
+        Check.due("led by 7", x.code(7, 3), 3);
+        x.send(0, 3);
+        x.send(5, -1);
+        Check.due("two were sent", x.code(1, 3), 1);
+        Check.dueReal("the mean of six boats", x.mean(), 20.0);
+    }
+
     private static void promise14Place() {
         CoveSignals x = new CoveSignals();
         x.setRoom(7, 5);
@@ -181,6 +204,13 @@ public final class TellersTest {
             got[what] = x.place(7, what);
         }
         Check.dueAll("place 7", got, 5, 3, 2, 2, 3);
+        Check.due("boats at sea at 8", x.place(8, 3), 1);
+        x.boat(2, 1);
+        x.boat(2, 1);
+        Check.due("two boats at 2", x.place(2, 3), 2);
+        CoveSignals y = new CoveSignals();
+        y.boat(4, 1);
+        Check.due("the boat 0", y.place(4, 3), 1);
         Check.due("place(10, 4)", x.place(10, 4), 2);
         Check.due("place(11, 4)", x.place(11, 4), 1);
         Check.due("place(12, 4)", x.place(12, 4), 0);
@@ -238,5 +268,24 @@ public final class TellersTest {
         Check.dueAll("count", got, 3, 1, 2, 5, 3, 1, 1, 8, 7, 5, 1);
         Check.outOfBounds(x, "count(-1)", () -> x.count(-1));
         Check.outOfBounds(x, "count(11)", () -> x.count(11));
+    }
+
+    private static void promise16KnownCodes() {
+        CoveSignals x = new CoveSignals();
+        x.watchman(5, 5, 3);
+        for (int code = 1; code <= 7; code++) {
+            if (code == 1) {
+                x.lantern(5);
+            }
+            for (int hour = 0; hour < 10; hour++) {
+                x.setShow(0, hour, code);
+            }
+            x.pass(2);
+            Check.due("code " + code + " was seen twice", x.count(10), code - 1);
+            x.pass(1);
+            Check.due("code " + code + " was seen thrice", x.count(10), code);
+        }
+        x.setCode(7, 3);
+        Check.due("code 7 is told anew", x.count(10), 6);
     }
 }
