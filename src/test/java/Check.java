@@ -4,6 +4,11 @@ final class Check {
         double run();
     }
 
+    /** A call with one argument left open. */
+    interface CallWith {
+        double run(int argument);
+    }
+
     private static int wrong = 0;
     private static int made = 0;
 
@@ -20,6 +25,13 @@ final class Check {
     static void dueReal(String call, double got, double want) {
         made++;
         if (got != want) {
+            report(call + " answered " + got + ", due is " + want);
+        }
+    }
+
+    static void dueText(String call, String got, String want) {
+        made++;
+        if (!got.equals(want)) {
             report(call + " answered " + got + ", due is " + want);
         }
     }
@@ -41,6 +53,23 @@ final class Check {
 
     static void illegalState(CoveSignals x, String name, Call call) {
         dueThrow(x, name, IllegalStateException.class, call);
+    }
+
+    /** The call refuses the next number below the least, the next above the greatest, and the farthest of all. */
+    static void outOfBoundsOutside(CoveSignals x, String name, int least, int greatest, CallWith call) {
+        for (int wrong : outside(least, greatest)) {
+            outOfBounds(x, name + " with " + wrong, () -> call.run(wrong));
+        }
+    }
+
+    static void illegalArgumentOutside(CoveSignals x, String name, int least, int greatest, CallWith call) {
+        for (int wrong : outside(least, greatest)) {
+            illegalArgument(x, name + " with " + wrong, () -> call.run(wrong));
+        }
+    }
+
+    private static int[] outside(int least, int greatest) {
+        return new int[] {least - 1, greatest + 1, Integer.MIN_VALUE, Integer.MAX_VALUE};
     }
 
     /** The call throws exactly this exception, by the class's own throw, and changes nothing. */

@@ -30,12 +30,6 @@ public final class HoursTest {
         return x;
     }
 
-    private static void showAlways(CoveSignals x, int lantern, int code) {
-        for (int hour = 0; hour < 10; hour++) {
-            x.setShow(lantern, hour, code);
-        }
-    }
-
     private static void promise17Pass() {
         CoveSignals x = new CoveSignals();
         Check.due("pass(1)", x.pass(1), 0);
@@ -73,9 +67,9 @@ public final class HoursTest {
         x.lantern(4);
         x.lantern(5);
         x.lantern(8);
-        showAlways(x, 0, 2);
-        showAlways(x, 1, 2);
-        showAlways(x, 2, 2);
+        Scenes.showAlways(x, 0, 2);
+        Scenes.showAlways(x, 1, 2);
+        Scenes.showAlways(x, 2, 2);
         x.watchman(4, 4, 1);
         x.watchman(5, 5, 0);
         x.pass(1);
@@ -97,7 +91,7 @@ public final class HoursTest {
     private static void step1SeenBeforeTheyWalk() {
         CoveSignals x = new CoveSignals();
         x.lantern(5);
-        showAlways(x, 0, 1);
+        Scenes.showAlways(x, 0, 1);
         x.watchman(5, 6, 0);
         x.pass(1);
         Check.due("seen from where he stood", x.light(0, 3), 1);
@@ -141,13 +135,13 @@ public final class HoursTest {
         CoveSignals x = new CoveSignals();
         x.lantern(5);
         x.setCode(1, 5);
-        showAlways(x, 0, 1);
+        Scenes.showAlways(x, 0, 1);
         x.boat(5, 5);
         x.pass(2);
         Check.due("lies at its goal", x.told(0, 3), 2);
         x.setCode(1, 9);
         x.setCode(2, 12);
-        showAlways(x, 0, 2);
+        Scenes.showAlways(x, 0, 2);
         x.pass(5);
         Check.due("stays, as the cave has no room", x.told(0, 0), 5);
         Check.due("goal stays", x.told(0, 2), 5);
@@ -179,7 +173,7 @@ public final class HoursTest {
             CoveSignals x = atNight(night);
             int reach = 9 - x.moon(night);
             x.lantern(0);
-            showAlways(x, 0, 4);
+            Scenes.showAlways(x, 0, 4);
             x.setCode(4, 15);
             x.boat(reach, 5);
             x.boat(reach + 1, 5);
@@ -199,9 +193,9 @@ public final class HoursTest {
         x.lantern(4);
         x.lantern(7);
         x.lantern(8);
-        showAlways(x, 0, 1);
-        showAlways(x, 1, 2);
-        showAlways(x, 2, 3);
+        Scenes.showAlways(x, 0, 1);
+        Scenes.showAlways(x, 1, 2);
+        Scenes.showAlways(x, 2, 3);
         x.setCode(1, 15);
         x.setCode(2, 0);
         x.boat(7, 9);
@@ -256,7 +250,7 @@ public final class HoursTest {
         x.setRoom(6, 30);
         x.lantern(6);
         x.setCode(1, 6);
-        showAlways(x, 0, 1);
+        Scenes.showAlways(x, 0, 1);
         x.boat(6, 3);
         Check.due("it does not unload in the hour in which it is led", x.pass(1), 0);
         Check.due("at its goal", x.told(0, 3), 2);

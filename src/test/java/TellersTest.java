@@ -14,30 +14,6 @@ public final class TellersTest {
         Check.end("TellersTest");
     }
 
-    private static long[] told(CoveSignals x, int boat) {
-        long[] all = new long[7];
-        for (int what = 0; what <= 6; what++) {
-            all[what] = x.told(boat, what);
-        }
-        return all;
-    }
-
-    private static long[] about(CoveSignals x, int watchman) {
-        long[] all = new long[5];
-        for (int what = 0; what <= 4; what++) {
-            all[what] = x.about(watchman, what);
-        }
-        return all;
-    }
-
-    private static long[] light(CoveSignals x, int lantern) {
-        long[] all = new long[4];
-        for (int what = 0; what <= 3; what++) {
-            all[what] = x.light(lantern, what);
-        }
-        return all;
-    }
-
     private static void promise10Told() {
         CoveSignals x = new CoveSignals();
         x.setRoom(6, 9);
@@ -47,18 +23,18 @@ public final class TellersTest {
         x.boat(3, 6);
         x.boat(12, 2);
         x.pass(1);
-        Check.dueAll("at sea, not at its goal", told(x, 0), 5, 6, 6, 1, 0, 5, 1);
-        Check.dueAll("at sea without a goal", told(x, 1), 12, 2, -1, 0, 0, 0, 1);
+        Check.dueAll("at sea, not at its goal", Scenes.told(x, 0), 5, 6, 6, 1, 0, 5, 1);
+        Check.dueAll("at sea without a goal", Scenes.told(x, 1), 12, 2, -1, 0, 0, 0, 1);
         x.pass(1);
-        Check.dueAll("at its goal", told(x, 0), 6, 6, 6, 2, 0, 5, 1);
+        Check.dueAll("at its goal", Scenes.told(x, 0), 6, 6, 6, 2, 0, 5, 1);
         x.pass(1);
-        Check.dueAll("unloads", told(x, 0), 6, 2, 6, 2, 4, 5, 1);
+        Check.dueAll("unloads", Scenes.told(x, 0), 6, 2, 6, 2, 4, 5, 1);
         x.pass(1);
-        Check.dueAll("gone", told(x, 0), 6, 0, 6, 3, 6, 5, 1);
+        Check.dueAll("gone", Scenes.told(x, 0), 6, 0, 6, 3, 6, 5, 1);
         x.send(1, 14);
         x.watchman(14, 14, 0);
         x.pass(1);
-        Check.dueAll("seized", told(x, 1), 14, 0, 14, 4, 0, 0, 0);
+        Check.dueAll("seized", Scenes.told(x, 1), 14, 0, 14, 4, 0, 0, 0);
         Check.outOfBounds(x, "told(2, 0)", () -> x.told(2, 0));
         Check.outOfBounds(x, "told(-1, 0)", () -> x.told(-1, 0));
         Check.outOfBounds(x, "told(6, 0)", () -> x.told(6, 0));
@@ -69,23 +45,23 @@ public final class TellersTest {
     private static void promise11About() {
         CoveSignals x = new CoveSignals();
         x.watchman(3, 5, 2);
-        Check.dueAll("about, moon 6", about(x, 0), 3, 1, 5, 4, 0);
+        Check.dueAll("about, moon 6", Scenes.about(x, 0), 3, 1, 5, 4, 0);
         x.pass(2);
-        Check.dueAll("at the greater end", about(x, 0), 5, 1, 5, 4, 0);
+        Check.dueAll("at the greater end", Scenes.about(x, 0), 5, 1, 5, 4, 0);
         x.pass(1);
-        Check.dueAll("goes down", about(x, 0), 4, -1, 5, 4, 0);
+        Check.dueAll("goes down", Scenes.about(x, 0), 4, -1, 5, 4, 0);
         x.boat(2, 9);
         x.send(0, 2);
         x.boat(2, 9);
         x.send(1, 2);
         x.pass(6);
-        Check.dueAll("hour 9, moon 6", about(x, 0), 4, 1, 5, 4, 2);
+        Check.dueAll("hour 9, moon 6", Scenes.about(x, 0), 4, 1, 5, 4, 2);
         x.pass(1);
-        Check.dueAll("hour 10, moon 5", about(x, 0), 5, 1, 4, 5, 2);
+        Check.dueAll("hour 10, moon 5", Scenes.about(x, 0), 5, 1, 4, 5, 2);
         x.pass(50);
-        Check.dueAll("hour 60, moon 0", about(x, 0), 3, -1, 2, 10, 2);
+        Check.dueAll("hour 60, moon 0", Scenes.about(x, 0), 3, -1, 2, 10, 2);
         x.watchman(8, 8, 0);
-        Check.dueAll("the second", about(x, 1), 8, 1, 0, 6, 0);
+        Check.dueAll("the second", Scenes.about(x, 1), 8, 1, 0, 6, 0);
         Check.outOfBounds(x, "about(2, 0)", () -> x.about(2, 0));
         Check.outOfBounds(x, "about(-1, 0)", () -> x.about(-1, 0));
         Check.outOfBounds(x, "about(0, 5)", () -> x.about(0, 5));
@@ -101,17 +77,17 @@ public final class TellersTest {
         x.setShow(0, 0, 3);
         x.setShow(0, 1, 4);
         x.setShow(0, 2, 0);
-        Check.dueAll("hour 0", light(x, 0), 5, 3, 2, 0);
-        Check.dueAll("one that does not shine", light(x, 1), 9, 0, 1, 0);
+        Check.dueAll("hour 0", Scenes.light(x, 0), 5, 3, 2, 0);
+        Check.dueAll("one that does not shine", Scenes.light(x, 1), 9, 0, 1, 0);
         x.pass(1);
-        Check.dueAll("hour 1, seen once by two", light(x, 0), 5, 4, 1, 1);
+        Check.dueAll("hour 1, seen once by two", Scenes.light(x, 0), 5, 4, 1, 1);
         x.pass(1);
-        Check.dueAll("hour 2, whatever code", light(x, 0), 5, 0, 2, 2);
+        Check.dueAll("hour 2, whatever code", Scenes.light(x, 0), 5, 0, 2, 2);
         x.pass(7);
-        Check.dueAll("hour 9", light(x, 0), 5, 0, 1, 2);
+        Check.dueAll("hour 9", Scenes.light(x, 0), 5, 0, 1, 2);
         x.pass(1);
-        Check.dueAll("hour 10 shows what hour 0 does, moon 5", light(x, 0), 5, 3, 2, 2);
-        Check.dueAll("moon 5", light(x, 1), 9, 0, 1, 0);
+        Check.dueAll("hour 10 shows what hour 0 does, moon 5", Scenes.light(x, 0), 5, 3, 2, 2);
+        Check.dueAll("moon 5", Scenes.light(x, 1), 9, 0, 1, 0);
         Check.outOfBounds(x, "light(2, 0)", () -> x.light(2, 0));
         Check.outOfBounds(x, "light(-1, 0)", () -> x.light(-1, 0));
         Check.outOfBounds(x, "light(0, 4)", () -> x.light(0, 4));
@@ -261,11 +237,7 @@ public final class TellersTest {
         x.pass(3);
         x.carry(3, 2);
         x.carry(2, 3);
-        long[] got = new long[11];
-        for (int what = 0; what <= 10; what++) {
-            got[what] = x.count(what);
-        }
-        Check.dueAll("count", got, 3, 1, 2, 5, 3, 1, 1, 8, 7, 5, 1);
+        Check.dueAll("count", Scenes.count(x), 3, 1, 2, 5, 3, 1, 1, 8, 7, 5, 1);
         Check.outOfBounds(x, "count(-1)", () -> x.count(-1));
         Check.outOfBounds(x, "count(11)", () -> x.count(11));
     }
