@@ -173,6 +173,7 @@ public final class EmptyAndFullTest {
         Check.due("he seizes", x.about(3, 4), 1);
         Check.due("he sees the lantern", x.code(2, 1), 1);
         Check.due("three at one place", x.place(0, 2), 3);
+        Check.due("none at the place beside it, though they see it", x.place(1, 2), 0);
         Check.due("three who see it", x.place(3, 4), 3);
         Check.due("count(2)", x.count(2), 4);
     }
